@@ -102,7 +102,8 @@ public final class TextTest {
 
     private static void promise8Grammar() {
         Object[][] rows = {
-            {"tiny", 0}, {"7", 0}, {";", 0}, {"  ;", 2}, {"A", 0}, {"Bay small 0 0;", 0}, {"bAy small 0 0;", 0}, {"bay sMall 0 0;", 4}, {"bay Small 0 0;", 4}, {"bay smallA 0 0;", 9},
+            {"tiny", 0}, {"7", 0}, {";", 0}, {"  ;", 2}, {"A", 0}, {"Bay small 0 0;", 0}, {"bAy small 0 0;", 0},
+            {"bay sMall 0 0;", 4}, {"bay Small 0 0;", 4}, {"bay smallA 0 0;", 9},
             {"small 0 0;", 0}, {"normal 0 1 1;", 0}, {"ba", 0}, {"bays small 0 0;", 0}, {"\0", 0}, {"\u00ff", 0},
             {"bay", 3}, {"bay ", 4}, {"bay;", 3}, {"bay 0 0;", 4}, {"bay tiny 0 0;", 4}, {"bay normal 0 0;", 4},
             {"bay small", 9}, {"bay small;", 9}, {"bay small large 0 0;", 10}, {"bay small 0", 11},
@@ -114,7 +115,13 @@ public final class TextTest {
             {"step over 0 a 1;", 12}, {"step over 0 1 a;", 14}, {"step over a 1 1;", 10},
             {"grace", 5}, {"grace;", 5}, {"grace over;", 6}, {"grace 1", 7}, {"grace 1 1;", 8}, {"grace 1grace 1;", 7},
             {"ramp", 4}, {"ramp;", 4}, {"ramp x;", 5}, {"ramp 1", 6}, {"ramp 1,", 6}, {"ramp 1.5;", 6}, {"ramp 1;;", 7},
-            {"ramp 1;ramp", 11}, {"ramp 1; x", 8}, {"hold 1;", 0}, {"ramp 1;lost 3;", 7}, {"ramps 1;", 0}, {"ram 1;", 0},
+            {"ramp 1;ramp", 11}, {"ramp 1; x", 8}, {"hold 1;", 0}, {"ramp 1;lost 3;", 7},
+            {"ramps 1;", 0}, {"ram 1;", 0},
+            {"lay small 0 0;", 0}, {"bax small 0 0;", 0}, {"stop over 0 1 1;", 0}, {"atep over 0 1 1;", 0},
+            {"trace 1;", 0}, {"gracf 1;", 0}, {"camp 1;", 0}, {"rams 1;", 0}, {"bay xmall 0 0;", 4},
+            {"bay smalk 0 0;", 4}, {"bay nedium 0 0;", 4}, {"bay mediun 0 0;", 4}, {"bay barge 0 0;", 4},
+            {"bay largo 0 0;", 4}, {"step formal 0 1 1;", 5}, {"step normaz 0 1 1;", 5}, {"step aver 0 1 1;", 5},
+            {"step oves 0 1 1;", 5},
         };
         for (Object[] row : rows) {
             ParkingGarage g = new ParkingGarage();
@@ -134,8 +141,8 @@ public final class TextTest {
             {"step normal 0 1 5001;", 16}, {"step normal 0 1 00;", 16}, {"grace 61;", 6}, {"grace 00;", 6},
             {"grace 010;", 6}, {"ramp 0;", 5}, {"ramp 201;", 5}, {"ramp 01;", 5}, {"ramp 4294967297;", 5},
             {"ramp 2147483648;", 5}, {"ramp 18446744073709551617;", 5}, {"grace 4294967296;", 6},
-            {"ramp 100000000000000000000000000000000000000000000000000000000000000000000000000001;", 5},
-            {"ramp 000000000000000000000000000000000000000000000000000000000000000000000000000001;", 5},
+            {"ramp 1" + "0".repeat(100) + "1;", 5}, {"ramp " + "0".repeat(100) + "1;", 5},
+            {"grace " + "9".repeat(114), 6},
         };
         for (Object[] row : rows) {
             String text = (String) row[0];
@@ -159,7 +166,8 @@ public final class TextTest {
         CHECK.due("no room, at a place that is taken", Check.load(g, "bay small 3 0;"), -10);
 
         ParkingGarage s = new ParkingGarage();
-        CHECK.due("five steps", Check.load(s, "step over 1 1 1;step over 2 1 1;step over 3 1 1;step over 4 1 1;"), 4);
+        String four = "step over 1 1 1;step over 2 1 1;step over 3 1 1;step over 4 1 1;";
+        CHECK.due("five steps", Check.load(s, four), 4);
         CHECK.due("a sixth", Check.load(s, "step over 5 1 1;"), -20);
         CHECK.due("a sixth, wrong behind", Check.load(s, "step over 5 0;"), -20);
         CHECK.due("in place, though full", Check.load(s, "step over 4 9 1;"), 1);
