@@ -788,7 +788,7 @@ public final class ParkingGarage {
         }
 
         boolean isHeld(int bay) {
-            return reservations.has(holder(bay));
+            return reservations.has(reservations.holderBetween(bay, time, time + 1, numbers[HOLDING]));
         }
 
         int firstFree(int size) {

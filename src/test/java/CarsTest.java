@@ -301,6 +301,10 @@ public final class CarsTest {
         g.pass(1440);
         CHECK.due("two days at most", g.leave(1), 4000);
         CHECK.due("the account", g.account(0), 4400);
+        for (int ticket = 1; ticket <= 3; ticket++) {
+            CHECK.due("ticket " + ticket + " has left", g.leave(ticket), -2);
+        }
+        CHECK.due("ticket 0, with bays empty", g.leave(0), -1);
         for (int undone = 0; undone < 5; undone++) {
             g.undo();
         }
