@@ -1,18 +1,33 @@
 /** Counts and tells the answers of one test that are not as due. */
 final class Check {
+    private static final long PATIENCE = 300_000;
+
     private final String test;
+    private String sentence = "";
+    private boolean sentenceIsChecked = true;
     private int seen = 0;
     private int wrong = 0;
 
     Check(String test) {
         this.test = test;
+        Thread guard = new Thread(this::giveUp);
+        guard.setDaemon(true);
+        guard.start();
+    }
+
+    /** What is looked at from here on: words of a section of the document, which SentencesTest looks up there. */
+    void sentence(String section, String words) {
+        endSentence();
+        sentence = section + ", \"" + words + "\": ";
+        sentenceIsChecked = false;
     }
 
     void due(String what, long got, long want) {
         seen++;
+        sentenceIsChecked = true;
         if (got != want) {
             wrong++;
-            System.out.println(test + ": " + what + " answered " + got + ", due is " + want);
+            System.out.println(test + ": " + sentence + what + " answered " + got + ", due is " + want);
         }
     }
 
@@ -22,8 +37,27 @@ final class Check {
 
     /** Ends the program, with the exit code 1 if an answer was wrong or none was looked at. */
     void end() {
+        endSentence();
         System.out.println(test + ": " + seen + " answers, " + wrong + " wrong");
         System.exit(wrong == 0 && seen > 0 ? 0 : 1);
+    }
+
+    private void endSentence() {
+        if (!sentenceIsChecked) {
+            wrong++;
+            System.out.println(test + ": " + sentence + "is not looked at");
+        }
+    }
+
+    /** A call that does not end is a failure, too. */
+    private void giveUp() {
+        try {
+            Thread.sleep(PATIENCE);
+        } catch (InterruptedException stopped) {
+            return;
+        }
+        System.out.println(test + ": " + sentence + "does not end");
+        Runtime.getRuntime().halt(1);
     }
 
     static void type(ParkingGarage garage, String text) {
