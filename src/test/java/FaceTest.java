@@ -2,6 +2,8 @@ import java.lang.reflect.Constructor;
 import java.lang.reflect.Field;
 import java.lang.reflect.Method;
 import java.lang.reflect.Modifier;
+import java.util.Arrays;
+import java.util.List;
 import java.util.TreeSet;
 
 /** The public face: just the constants, the constructor and the methods of the document. */
@@ -24,6 +26,7 @@ public final class FaceTest {
         constructors(check);
         methods(check);
         fields(check);
+        classesInside(check);
         check.end();
     }
 
@@ -46,12 +49,17 @@ public final class FaceTest {
     }
 
     private static void methods(Check check) {
-        TreeSet<String> want = new TreeSet<>(java.util.List.of(FACE));
+        TreeSet<String> want = new TreeSet<>(List.of(FACE));
         TreeSet<String> got = new TreeSet<>();
         for (Method method : ParkingGarage.class.getDeclaredMethods()) {
             if (!Modifier.isPrivate(method.getModifiers()) && !method.isSynthetic()) {
                 got.add(method.getName() + " " + method.getParameterCount());
                 check.holds(method.getName() + " answers an int", method.getReturnType() == int.class);
+                check.holds(method.getName() + " takes int alone",
+                        Arrays.stream(method.getParameterTypes()).allMatch(type -> type == int.class));
+                check.due(method.getName() + " is public, and not of the class",
+                        method.getModifiers() & (Modifier.PUBLIC | Modifier.STATIC), Modifier.PUBLIC);
+                check.due(method.getName() + " names no exception", method.getExceptionTypes().length, 0);
             }
         }
         check.holds("methods " + got, got.equals(want));
@@ -62,9 +70,22 @@ public final class FaceTest {
         for (Field field : ParkingGarage.class.getDeclaredFields()) {
             if (!Modifier.isPrivate(field.getModifiers()) && !field.isSynthetic()) {
                 got.add(field.getName());
+                check.due(field.getName() + " is a constant", field.getModifiers(),
+                        Modifier.PUBLIC | Modifier.STATIC | Modifier.FINAL);
+                check.holds(field.getName() + " is an int", field.getType() == int.class);
             }
         }
         check.holds("fields " + got, got.equals(new TreeSet<>(
-                java.util.List.of("INVALID_ARGUMENT", "ILLEGAL_STATE", "CAPACITY_EXCEEDED", "NONE"))));
+                List.of("INVALID_ARGUMENT", "ILLEGAL_STATE", "CAPACITY_EXCEEDED", "NONE"))));
+    }
+
+    private static void classesInside(Check check) {
+        for (Class<?> inside : ParkingGarage.class.getDeclaredClasses()) {
+            check.due(inside.getName() + " is static, and neither public nor protected",
+                    inside.getModifiers() & (Modifier.STATIC | Modifier.PUBLIC | Modifier.PROTECTED), Modifier.STATIC);
+        }
+        check.holds("no class of another one", ParkingGarage.class.getSuperclass() == Object.class
+                && ParkingGarage.class.getInterfaces().length == 0);
+        check.holds("no package", ParkingGarage.class.getPackageName().isEmpty());
     }
 }

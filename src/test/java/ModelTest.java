@@ -1,10 +1,14 @@
+import java.util.ArrayList;
+import java.util.List;
 import java.util.Random;
 
-/** All promises: the answers of the program and of the model to the same calls, which fixed seeds choose. */
+/**
+ * All promises: the answers of the program and of the model to the same calls, which fixed seeds choose. What is looked
+ * at between them is asked of other garages, for which the calls are made anew: so none has more than its 512 calls.
+ */
 public final class ModelTest {
-    private static final int RUNS = Integer.getInteger("runs", 60);
+    private static final int RUNS = Integer.getInteger("runs", 100);
     private static final int FIRST = Integer.getInteger("first", 0);
-    private static final int CALLS = 512;
     private static final String[] WORDS = {
         "bay", "step", "grace", "ramp", "small", "medium", "large", "normal", "over", ";", " ", "  ", "0", "1", "00",
         "07", "4", "5", "60", "61", "99", "100", "200", "201", "240", "241", "1440", "1441", "5000", "5001",
@@ -15,14 +19,17 @@ public final class ModelTest {
     private final Check check = new Check("ModelTest");
     private final int[] called = new int[26];
     private final int[] succeeded = new int[26];
-    private ParkingGarage g;
+    private final List<Scene.Call> made = new ArrayList<>();
+    private ParkingGarage garage;
+    private ParkingGarage other;
+    private int callsOfOther;
     private Model m;
+    private int seed;
     private Random dice;
     private int plates;
     private int reach;
     private String call;
     private int got;
-    private int want;
 
     private ModelTest() {
     }
@@ -38,8 +45,10 @@ public final class ModelTest {
         test.check.end();
     }
 
-    private void run(int seed) {
-        g = new ParkingGarage();
+    private void run(int number) {
+        seed = number;
+        made.clear();
+        garage = new ParkingGarage();
         m = new Model();
         dice = new Random(seed);
         plates = 2 + dice.nextInt(20);
@@ -48,7 +57,7 @@ public final class ModelTest {
         for (int bay = 0; bay < first; bay++) {
             addBay();
         }
-        for (int number = 0; number < CALLS; number++) {
+        for (int turn = 0; made.size() < Scene.MOST_CALLS; turn++) {
             int kind = dice.nextInt(26);
             if (kind < 8 && dice.nextInt(3) > 0) {
                 kind = 8 + dice.nextInt(18);
@@ -56,37 +65,57 @@ public final class ModelTest {
             one(kind);
             called[kind]++;
             succeeded[kind] += got >= 0 ? 1 : 0;
-            check.due("run " + seed + " call " + number + " " + call, got, want);
-            compareCounts(seed);
-            if (number % 16 == 0) {
-                compareAll(seed);
+            other = null;
+            compareCounts();
+            if (turn % 16 == 0) {
+                compareAll();
             }
         }
+    }
+
+    /** Asks a garage in the state behind the last call; behind the 512th call none is left that could answer. */
+    private void look(String what, Scene.Call look, int due) {
+        if (made.size() >= Scene.MOST_CALLS) {
+            return;
+        }
+        if (other == null || callsOfOther >= Scene.MOST_CALLS) {
+            other = new ParkingGarage();
+            for (Scene.Call before : made) {
+                before.on(other);
+            }
+            callsOfOther = made.size();
+        }
+        callsOfOther++;
+        check.due(what, look.on(other), due);
     }
 
     /** What no answer of the call itself shows. */
-    private void compareCounts(int seed) {
-        for (int what = 0; what <= 12; what++) {
-            check.due("run " + seed + " behind " + call + " count(" + what + ")", g.count(what), m.count(what));
+    private void compareCounts() {
+        String behind = call + ", then ";
+        for (int number = 0; number <= 12; number++) {
+            int what = number;
+            look(behind + "count " + what, g -> g.count(what), m.count(what));
         }
-        check.due("run " + seed + " behind " + call + " account", g.account(-1), m.account(-1));
+        look(behind + "account", g -> g.account(-1), m.account(-1));
     }
 
-    private void compareAll(int seed) {
-        String behind = "run " + seed + " behind " + call + " ";
-        for (int row = 0; row < 30; row++) {
-            for (int what = 0; what <= 6; what++) {
-                check.due(behind + "bay " + row + " " + what, g.bay(row, what), m.bay(row, what));
-                check.due(behind + "reservation " + row + " " + what,
-                        g.reservation(row, what), m.reservation(row, what));
-                check.due(behind + "car " + row + " " + what, g.car(row, what), m.car(row, what));
-                check.due(behind + "step " + row % 6 + " " + what,
-                        g.step(row / 15, row % 6, what), m.step(row / 15, row % 6, what));
+    private void compareAll() {
+        String behind = call + ", then ";
+        for (int number = 0; number < 30; number++) {
+            int row = number;
+            for (int property = 0; property <= 6; property++) {
+                int what = property;
+                look(behind + "bay " + row + " " + what, g -> g.bay(row, what), m.bay(row, what));
+                look(behind + "reservation " + row + " " + what,
+                        g -> g.reservation(row, what), m.reservation(row, what));
+                look(behind + "car " + row + " " + what, g -> g.car(row, what), m.car(row, what));
+                look(behind + "step " + row % 6 + " " + what,
+                        g -> g.step(row / 15, row % 6, what), m.step(row / 15, row % 6, what));
             }
-            check.due(behind + "account " + row % 4, g.account(row % 4), m.account(row % 4));
-            check.due(behind + "freeFor " + row, g.freeFor(row), m.freeFor(row));
-            check.due(behind + "free", g.free(row % 5, row / 5 % 4 - 1), m.free(row % 5, row / 5 % 4 - 1));
-            check.due(behind + "nearest", g.nearest(row % 3), m.nearest(row % 3));
+            look(behind + "account " + row % 4, g -> g.account(row % 4), m.account(row % 4));
+            look(behind + "freeFor " + row, g -> g.freeFor(row), m.freeFor(row));
+            look(behind + "free", g -> g.free(row % 5, row / 5 % 4 - 1), m.free(row % 5, row / 5 % 4 - 1));
+            look(behind + "nearest", g -> g.nearest(row % 3), m.nearest(row % 3));
         }
     }
 
@@ -102,10 +131,11 @@ public final class ModelTest {
         return values[dice.nextInt(values.length)];
     }
 
-    private void answers(String name, int program, int model) {
-        call = name;
-        got = program;
-        want = model;
+    private void answers(String name, Scene.Call program, int model) {
+        call = "run " + seed + " call " + (made.size() + 1) + " " + name;
+        got = program.on(garage);
+        made.add(program);
+        check.due(call, got, model);
     }
 
     private void one(int kind) {
@@ -123,7 +153,7 @@ public final class ModelTest {
         int position = dice.nextInt(3) == 0 ? 50 * upTo(2) : upTo(99);
         int size = upTo(2);
         answers("addBay " + level + " " + position + " " + size,
-                g.addBay(level, position, size), m.addBay(level, position, size));
+                g -> g.addBay(level, position, size), m.addBay(level, position, size));
     }
 
     private void setting(int kind) {
@@ -134,7 +164,7 @@ public final class ModelTest {
                 break;
             case 1:
                 int on = some(0, 1, 1, upTo(2));
-                answers("setBay " + x + " " + on, g.setBay(x, on), m.setBay(x, on));
+                answers("setBay " + x + " " + on, g -> g.setBay(x, on), m.setBay(x, on));
                 break;
             case 2:
                 setStep();
@@ -142,14 +172,14 @@ public final class ModelTest {
             case 3:
                 int what = upTo(4);
                 int value = what == 0 ? upTo(201) : what == 1 ? upTo(121) : what == 2 ? upTo(61) : upTo(5000);
-                answers("setNumber " + what + " " + value, g.setNumber(what, value), m.setNumber(what, value));
+                answers("setNumber " + what + " " + value, g -> g.setNumber(what, value), m.setNumber(what, value));
                 break;
             case 4:
                 int character = upTo(256);
-                answers("append " + character, g.appendCharacter(character), m.appendCharacter(character));
+                answers("append " + character, g -> g.appendCharacter(character), m.appendCharacter(character));
                 break;
             case 5:
-                answers("clearText", g.clearText(), m.clearText());
+                answers("clearText", g -> g.clearText(), m.clearText());
                 break;
             default:
                 load();
@@ -163,7 +193,7 @@ public final class ModelTest {
         int unit = some(0, 1, 60, 240, upTo(241));
         int price = some(0, 5000, upTo(300));
         answers("setStep " + tariff + " " + start + " " + unit + " " + price,
-                g.setStep(tariff, start, unit, price), m.setStep(tariff, start, unit, price));
+                g -> g.setStep(tariff, start, unit, price), m.setStep(tariff, start, unit, price));
     }
 
     private void load() {
@@ -177,11 +207,11 @@ public final class ModelTest {
             int end = dice.nextBoolean() ? place : Math.min(typed.length(), place + 1 + dice.nextInt(5));
             typed.replace(place, end, WORDS[dice.nextInt(WORDS.length)]);
         }
+        typed.setLength(Math.min(typed.length(), Scene.MOST_CALLS - 1 - made.size()));
         for (char character : typed.toString().toCharArray()) {
-            g.appendCharacter(character);
-            m.appendCharacter(character);
+            answers("append", g -> g.appendCharacter(character), m.appendCharacter(character));
         }
-        answers("load " + typed, g.load(), m.load());
+        answers("load " + typed, g -> g.load(), m.load());
     }
 
     private String item() {
@@ -204,28 +234,28 @@ public final class ModelTest {
         switch (kind) {
             case 8:
             case 14:
-                int begin = g.count(5) + some(0, upTo(reach), upTo(reach), 5 * upTo(reach));
+                int begin = m.count(5) + some(0, upTo(reach), upTo(reach), 5 * upTo(reach));
                 int end = begin + some(1, upTo(reach), upTo(reach), upTo(1441));
                 answers("reserve " + plate + " " + size + " " + begin + " " + end,
-                        g.reserve(plate, size, begin, end), m.reserve(plate, size, begin, end));
+                        g -> g.reserve(plate, size, begin, end), m.reserve(plate, size, begin, end));
                 break;
             case 9:
                 int reservation = upTo(15);
-                answers("cancel " + reservation, g.cancel(reservation), m.cancel(reservation));
+                answers("cancel " + reservation, g -> g.cancel(reservation), m.cancel(reservation));
                 break;
             case 10:
-                answers("enter " + plate + " " + size, g.enter(plate, size), m.enter(plate, size));
+                answers("enter " + plate + " " + size, g -> g.enter(plate, size), m.enter(plate, size));
                 break;
             case 11:
-                int ticket = Math.max(0, g.count(2) - 6) + upTo(7);
-                answers("leave " + ticket, g.leave(ticket), m.leave(ticket));
+                int ticket = Math.max(0, m.count(2) - 6) + upTo(7);
+                answers("leave " + ticket, g -> g.leave(ticket), m.leave(ticket));
                 break;
             case 12:
-                answers("leaveLost " + plate, g.leaveLost(plate), m.leaveLost(plate));
+                answers("leaveLost " + plate, g -> g.leaveLost(plate), m.leaveLost(plate));
                 break;
             default:
                 int minutes = some(1, 15, upTo(reach), upTo(reach), upTo(reach), upTo(5001));
-                answers("pass " + minutes, g.pass(minutes), m.pass(minutes));
+                answers("pass " + minutes, g -> g.pass(minutes), m.pass(minutes));
                 break;
         }
     }
@@ -235,24 +265,24 @@ public final class ModelTest {
         int y = upTo(7);
         switch (kind) {
             case 15:
-                answers("bay " + x + " " + y, g.bay(x, y), m.bay(x, y));
+                answers("bay " + x + " " + y, g -> g.bay(x, y), m.bay(x, y));
                 break;
             case 16:
-                answers("reservation " + x + " " + y, g.reservation(x, y), m.reservation(x, y));
+                answers("reservation " + x + " " + y, g -> g.reservation(x, y), m.reservation(x, y));
                 break;
             case 17:
                 int plate = plate();
-                answers("car " + plate + " " + y, g.car(plate, y), m.car(plate, y));
+                answers("car " + plate + " " + y, g -> g.car(plate, y), m.car(plate, y));
                 break;
             case 18:
                 int tariff = upTo(1);
                 int index = upTo(5);
                 int what = upTo(2);
                 answers("step " + tariff + " " + index + " " + what,
-                        g.step(tariff, index, what), m.step(tariff, index, what));
+                        g -> g.step(tariff, index, what), m.step(tariff, index, what));
                 break;
             case 19:
-                answers("account " + (y - 2), g.account(y - 2), m.account(y - 2));
+                answers("account " + (y - 2), g -> g.account(y - 2), m.account(y - 2));
                 break;
             default:
                 ask(kind);
@@ -264,31 +294,31 @@ public final class ModelTest {
         int size = upTo(3);
         switch (kind) {
             case 20:
-                answers("nearest " + size, g.nearest(size), m.nearest(size));
+                answers("nearest " + size, g -> g.nearest(size), m.nearest(size));
                 break;
             case 21:
                 int level = upTo(5);
-                answers("free " + level + " " + (size - 1), g.free(level, size - 1), m.free(level, size - 1));
+                answers("free " + level + " " + (size - 1), g -> g.free(level, size - 1), m.free(level, size - 1));
                 break;
             case 22:
                 int tariff = upTo(1);
                 int minutes = some(upTo(100), upTo(2000), upTo(20001));
-                answers("fee " + tariff + " " + minutes, g.fee(tariff, minutes), m.fee(tariff, minutes));
+                answers("fee " + tariff + " " + minutes, g -> g.fee(tariff, minutes), m.fee(tariff, minutes));
                 break;
             case 23:
                 int plate = plate();
-                answers("minutesLeft " + plate, g.minutesLeft(plate), m.minutesLeft(plate));
+                answers("minutesLeft " + plate, g -> g.minutesLeft(plate), m.minutesLeft(plate));
                 break;
             case 24:
                 int bay = upTo(9);
-                answers("freeFor " + bay, g.freeFor(bay), m.freeFor(bay));
+                answers("freeFor " + bay, g -> g.freeFor(bay), m.freeFor(bay));
                 break;
             default:
                 int length = some(upTo(reach), upTo(1441));
                 if (dice.nextInt(3) == 0) {
-                    answers("earliest " + size + " " + length, g.earliest(size, length), m.earliest(size, length));
+                    answers("earliest " + size + " " + length, g -> g.earliest(size, length), m.earliest(size, length));
                 } else {
-                    answers("undo", g.undo(), m.undo());
+                    answers("undo", g -> g.undo(), m.undo());
                 }
                 break;
         }

@@ -11,7 +11,7 @@ final class Scene {
         int on(ParkingGarage g);
     }
 
-    private static final int MOST_CALLS = 512;
+    static final int MOST_CALLS = 512;
     private static final int LOOKS_AT_ONCE = 170;
     private static final List<Call> LOOKS = looks();
 

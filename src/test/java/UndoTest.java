@@ -77,28 +77,36 @@ public final class UndoTest {
         }
     }
 
+    /** With five saved states, so that there is room for just one more. */
+    private static ParkingGarage ready() {
+        ParkingGarage g = garage();
+        for (int times = 0; times < 4; times++) {
+            g.setNumber(0, 50);
+        }
+        g.undo();
+        return g;
+    }
+
     private static void promise27EachCall() {
+        ParkingGarage six = garage();
+        for (int times = 0; times < 6; times++) {
+            CHECK.due("six are saved", six.undo(), 5 - times);
+        }
+        String before = Check.look(ready());
         for (int call = 0; call < 20; call++) {
-            ParkingGarage g = garage();
-            for (int times = 0; times < 6; times++) {
-                CHECK.holds("room for one more", g.undo() >= 0);
-            }
-            g = garage();
-            for (int times = 0; times < 4; times++) {
-                g.setNumber(0, 50);
-            }
-            g.undo();
-            String before = Check.look(g);
+            ParkingGarage g = ready();
             int answer = each(g, call);
-            String after = Check.look(g);
             CHECK.holds("call " + call + " is possible", answer >= 0);
-            CHECK.holds("call " + call + " is seen", !before.equals(after));
             CHECK.due("call " + call + " is saved", g.count(12), 6);
+            String after = Check.look(g);
+            CHECK.holds("call " + call + " changes what is there", !before.equals(after));
             CHECK.due("undo of call " + call, g.undo(), 5);
             CHECK.holds("call " + call + " is undone", before.equals(Check.look(g)));
+            g = ready();
+            each(g, call);
+            g.undo();
             CHECK.due("call " + call + " once more", each(g, call), answer);
             CHECK.holds("call " + call + " is seen once more", after.equals(Check.look(g)));
-            CHECK.holds("call " + call + " changes what is there", !before.equals(after));
         }
     }
 

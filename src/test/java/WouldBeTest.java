@@ -1,5 +1,8 @@
+import java.util.Random;
+
 /** Promises 24 to 26: minutesLeft, freeFor, earliest. */
 public final class WouldBeTest {
+    private static final int TRIES_OF_ONE = 400;
     private static final Check CHECK = new Check("WouldBeTest");
 
     private WouldBeTest() {
@@ -199,29 +202,41 @@ public final class WouldBeTest {
     /** The begin is the first one with which reserve() makes a reservation, tried one by one. */
     private static void promise26LikeReserve() {
         for (int run = 0; run < 60; run++) {
-            ParkingGarage g = new ParkingGarage();
-            java.util.Random dice = new java.util.Random(run);
-            for (int bay = 0; bay < 3; bay++) {
-                g.addBay(0, bay, dice.nextInt(3));
-            }
-            for (int made = 0; made < 12; made++) {
-                g.setNumber(1, dice.nextInt(121));
-                int begin = g.count(5) + dice.nextInt(600);
-                g.reserve(1 + dice.nextInt(3), dice.nextInt(3), begin, begin + 1 + dice.nextInt(300));
-                g.enter(1 + dice.nextInt(3), dice.nextInt(3));
-                g.pass(1 + dice.nextInt(90));
-            }
+            Random dice = new Random(1000 + run);
             int size = dice.nextInt(3);
             int minutes = 1 + dice.nextInt(200);
-            CHECK.due("run " + run, g.earliest(size, minutes), tried(g, size, minutes));
+            CHECK.due("run " + run, chosen(run).earliest(size, minutes), tried(run, size, minutes));
         }
     }
 
-    private static int tried(ParkingGarage g, int size, int minutes) {
-        int time = g.count(5);
+    /** Fifty calls, the same for the same run. */
+    private static ParkingGarage chosen(int run) {
+        ParkingGarage g = new ParkingGarage();
+        Random dice = new Random(run);
+        int time = 0;
+        for (int bay = 0; bay < 3; bay++) {
+            g.addBay(0, bay, dice.nextInt(3));
+        }
+        for (int made = 0; made < 12; made++) {
+            g.setNumber(1, dice.nextInt(121));
+            int begin = time + dice.nextInt(600);
+            g.reserve(1 + dice.nextInt(3), dice.nextInt(3), begin, begin + 1 + dice.nextInt(300));
+            g.enter(1 + dice.nextInt(3), dice.nextInt(3));
+            int minutes = 1 + dice.nextInt(90);
+            g.pass(minutes);
+            time += minutes;
+        }
+        return g;
+    }
+
+    private static int tried(int run, int size, int minutes) {
+        int time = chosen(run).count(5);
+        ParkingGarage g = chosen(run);
         for (int begin = time; begin <= time + 1440 && begin <= 20000; begin++) {
+            if ((begin - time) % TRIES_OF_ONE == 0) {
+                g = chosen(run);
+            }
             if (g.reserve(1, size, begin, begin + minutes) >= 0) {
-                g.undo();
                 return begin;
             }
         }
